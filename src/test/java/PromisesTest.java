@@ -595,6 +595,15 @@ public final class PromisesTest {
         for (int to : new int[] {0, 41, -1, LEAST_INT, MOST_INT}) {
             Due.is("22: pieces(" + to + ")", x.pieces(to), BAD);
         }
+        LeastInBounds y = new LeastInBounds();
+        addLine(y, OVER, -9, 9, 1, 0);
+        addLine(y, OVER, -39, 1, 0, 1);
+        // T 2: line 0 at 9; T 40: line 1 at 1 too
+        Due.is("22: not yet at 1", y.pieces(1), 0);
+        Due.is("22: from 2 on", y.pieces(39), 1);
+        Due.is("22: all lines, at the last tide", y.pieces(40), 2);
+        y.change(0, 1, 0);
+        Due.is("22: at the first tide", y.pieces(1), 1);
         Due.is("22: not proper", improper().pieces(1), STATE);
         Due.is("22: not proper, and bad", improper().pieces(0), BAD);
     }
@@ -720,6 +729,16 @@ public final class PromisesTest {
         for (int s : new int[] {4, -1, LEAST_INT, MOST_INT}) {
             Due.is("26: certify(" + s + ")", x.certify(s), BAD);
         }
+        x.size(1);
+        x.bend(0, 0, 6);
+        x.push(0, -4);
+        Due.is("26: thirds", x.certify(0), 2);
+        sheetIs("26: thirds", x, 0, 2, 3);
+        x.push(0, -3);
+        addLine(x, ON, 4, 0, 2);
+        // 2 x = 4, and 12 - 3 + 2 y = 0
+        Due.is("26: a weight of halves", x.certify(0), 3);
+        sheetIs("26: a weight of halves", x, 0, 4, -9, 2);
         LeastInBounds y = empty();
         y.sheet(1, 0, 3);
         Due.is("26: none", y.certify(1), NONE);
@@ -881,9 +900,32 @@ public final class PromisesTest {
         x.push(0, 4);
         x.solve();
         fraction("32: -2 / 3 is more", x.least(0), x.least(1), -3, 4);
+        x.bend(0, 0, 5);
+        x.push(0, 3);
+        x.solve();
+        fraction("32: -9 / 10 is less", x.least(0), x.least(1), -9, 10);
+        x.bend(0, 0, 13);
+        x.push(0, 5);
+        x.solve();
+        fraction("32: -25 / 26 is less", x.least(0), x.least(1), -25, 26);
+        x.bend(0, 0, 8);
+        x.push(0, 4);
+        x.solve();
+        fraction("32: -1 is less", x.least(0), x.least(1), -1, 1);
+        x.bend(0, 0, 9);
+        x.solve();
+        fraction("32: -8 / 9 is more", x.least(0), x.least(1), -1, 1);
+        x.bend(0, 0, 7);
+        x.solve();
+        fraction("32: -8 / 7 is less", x.least(0), x.least(1), -8, 7);
+        x.solve();
+        fraction("32: the same again", x.least(0), x.least(1), -8, 7);
+        x.bend(0, 0, 4);
+        x.solve();
+        fraction("32: -2 is less", x.least(0), x.least(1), -2, 1);
         addLine(x, ON, 50, 0, 1);
         x.solve();
-        fraction("32: far more", x.least(0), x.least(1), -3, 4);
+        fraction("32: far more", x.least(0), x.least(1), -2, 1);
     }
 
     private static void bookOfAll() {
@@ -1046,6 +1088,9 @@ public final class PromisesTest {
         Due.is("39: ON", x.count(3), 2);
         x.drop(4);
         Due.is("39: ON, one dropped", x.count(3), 1);
+        x.change(0, 0, ON);
+        Due.is("39: ON, the first", x.count(3), 2);
+        x.change(0, 0, UNDER);
         x.change(2, 0, APART);
         Due.is("39: ON, one changed", x.count(3), 0);
         for (int what : new int[] {4, -1, LEAST_INT, MOST_INT}) {
