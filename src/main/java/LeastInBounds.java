@@ -23,11 +23,11 @@ public final class LeastInBounds {
     private final Solver nearSolver = new Solver(round);
     private final Sheets sheets = new Sheets();
     private final Certificate certificate = new Certificate(bowl);
+    private final Book book = new Book();
     private boolean hasImage;
 
     public LeastInBounds() {
         bowl.begin(2);
-        Book.OF_ALL.begin();
     }
 
     // ---- the bowl, lines
@@ -263,33 +263,33 @@ public final class LeastInBounds {
         if (found == STATE) {
             return STATE;
         }
-        Book.OF_ALL.write(found);
+        book.write(found);
         if (found >= 0) {
-            Book.OF_ALL.offer(solver.twiceWorth(), 2 * solver.now.below);
+            book.offer(solver.twiceWorth(), 2 * solver.now.below);
         }
         return found;
     }
 
     public int notes() {
-        return Book.OF_ALL.noted;
+        return book.noted;
     }
 
     public long mark() {
-        return Book.OF_ALL.sum;
+        return book.sum;
     }
 
     public int trail(int k) {
-        return k < 0 || k >= TRAIL_LENGTH || k >= Book.OF_ALL.noted ? PLACE : Book.OF_ALL.lastBut(k);
+        return k < 0 || k >= TRAIL_LENGTH || k >= book.noted ? PLACE : book.lastBut(k);
     }
 
     public long least(int part) {
         if (!isPart(part)) {
             return NO + BAD;
         }
-        if (Book.OF_ALL.leastBelow == 0) {
+        if (book.leastBelow == 0) {
             return NO + NONE;
         }
-        return Fractions.told(Book.OF_ALL.leastAbove, Book.OF_ALL.leastBelow, part);
+        return Fractions.told(book.leastAbove, book.leastBelow, part);
     }
 
     // ---- sheets, an image
@@ -1027,28 +1027,18 @@ public final class LeastInBounds {
     }
 
     /**
-     * The book, one for all objects of the class: a constant of an enum is the one thing that
-     * they share.
+     * What was sought. Each object has its own, empty with it: objects could share one only by
+     * what a static field holds, and LANGUAGE.md's rule 5 lets none of that change.
      */
-    private enum Book {
-        OF_ALL;
-
+    private static final class Book {
         // What solve answers is -1 .. 63, a byte: so eight of them are a long, the last one lowest.
         private static final int BITS = 8;
 
-        private int noted;
-        private long sum;
+        int noted;
+        long sum;
+        long leastAbove;
+        long leastBelow;
         private long lastEight;
-        private long leastAbove;
-        private long leastBelow;
-
-        void begin() {
-            noted = 0;
-            sum = 0;
-            lastEight = 0;
-            leastAbove = 0;
-            leastBelow = 0;
-        }
 
         void write(int found) {
             noted++;

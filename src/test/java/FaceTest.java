@@ -33,7 +33,6 @@ public final class FaceTest {
             int m = inside.getModifiers();
             Due.isTrue(inside + " is static", Modifier.isStatic(m));
             Due.isTrue(inside + " is private or package-visible", !Modifier.isPublic(m) && !Modifier.isProtected(m));
-            staticFieldsAreFinal(inside);
         }
         Due.end();
     }
@@ -68,15 +67,6 @@ public final class FaceTest {
         }
         Set<String> due = new TreeSet<>(Arrays.asList(CONSTANTS));
         Due.isTrue("constants " + found + " are " + due, found.equals(due));
-        staticFieldsAreFinal(face);
-    }
-
-    private static void staticFieldsAreFinal(Class<?> c) {
-        for (Field f : c.getDeclaredFields()) {
-            if (Modifier.isStatic(f.getModifiers())) {
-                Due.isTrue(f + " is final", Modifier.isFinal(f.getModifiers()));
-            }
-        }
     }
 
     private static void constructors(Class<?> face) {

@@ -3,15 +3,19 @@ import java.util.ArrayList;
 import java.util.Arrays;
 import java.util.List;
 import java.util.Random;
+import java.util.Set;
 
 /**
  * Holds the class against the reference, in long runs of drawn calls (always the same ones): bowls
  * and lines are built, then all kinds of calls are asked, right and wrong ones, on two objects in
- * turn. An argument is the run's seed, to see one run alone.
+ * turn (the book's calls on the one made last alone: NOTES.md says why). An argument is the run's
+ * seed, to see one run alone.
  */
 public final class ReferenceTest {
     private static final int RUNS = 260;
     private static final int CALLS = 500;
+    private static final int MADE_LAST = 1;
+    private static final Set<String> OF_THE_BOOK = Set.of("solve", "notes", "mark", "trail", "least");
     private static final int[] WILD = {
         Integer.MIN_VALUE, Integer.MAX_VALUE, -100, -99, -21, -10, -9, -2, -1, 0, 1, 2, 3, 4, 5, 6, 7, 8,
         9, 10, 12, 13, 20, 21, 40, 41, 63, 64, 99, 100, 1 << 30
@@ -55,7 +59,7 @@ public final class ReferenceTest {
 
     private void go() throws Exception {
         while (asked < CALLS && Due.allRight()) {
-            int who = style == 3 ? random.nextInt(2) : 0;
+            int who = style == 3 ? random.nextInt(2) : MADE_LAST;
             build(who);
             tryCertificates(who);
             for (int k = 0; k < 40 && Due.allRight(); k++) {
@@ -205,7 +209,7 @@ public final class ReferenceTest {
     }
 
     private void ask(int who, Method m, Object[] args) throws Exception {
-        if (asked >= CALLS) {
+        if (asked >= CALLS || who != MADE_LAST && OF_THE_BOOK.contains(m.getName())) {
             return;
         }
         asked++;
