@@ -18,6 +18,13 @@ final class Due {
         is(what, so ? 1 : 0, 1);
     }
 
+    /** Several answers, all of which are to be the same. */
+    static void each(String calls, long want, long... got) {
+        for (int k = 0; k < got.length; k++) {
+            is(calls + ", " + k, got[k], want);
+        }
+    }
+
     /** A refusal where a long is answered. */
     static void refused(String call, long got, int code) {
         is(call, got, LeastInBounds.NO + code);
@@ -25,6 +32,14 @@ final class Due {
 
     static boolean allRight() {
         return wrong == 0;
+    }
+
+    static int asked() {
+        return asked;
+    }
+
+    static int wrong() {
+        return wrong;
     }
 
     static void end() {

@@ -2,13 +2,7 @@
  * A test for each promise of the document, named by its number: ordinary inputs, the edges that the
  * document names, wrong inputs. What is due was reckoned by hand.
  */
-public final class PromisesTest {
-    private static final int NONE = LeastInBounds.NONE, BAD = LeastInBounds.BAD, STATE = LeastInBounds.STATE;
-    private static final int FULL = LeastInBounds.FULL, MUCH = LeastInBounds.MUCH, NOTHING = LeastInBounds.NOTHING;
-    private static final int PLACE = LeastInBounds.PLACE, KIND = LeastInBounds.KIND, SIZE = LeastInBounds.SIZE;
-    private static final int UNDER = 0, OVER = 1, ON = 2, TWICE = 3, APART = 4;
-    private static final int LEAST_INT = Integer.MIN_VALUE, MOST_INT = Integer.MAX_VALUE;
-
+public final class PromisesTest extends Samples {
     public static void main(String[] args) {
         newObject1();
         size2();
@@ -47,43 +41,6 @@ public final class PromisesTest {
         imageAndBack37And38();
         count39();
         Due.end();
-    }
-
-    private static void fraction(String what, long above, long below, long wantAbove, long wantBelow) {
-        Due.is(what + ", above", above, wantAbove);
-        Due.is(what + ", below", below, wantBelow);
-    }
-
-    private static void addLine(LeastInBounds x, int kind, int b, int d, int... slopes) {
-        int l = x.line(kind, b, d);
-        for (int i = 0; i < slopes.length; i++) {
-            x.slope(l, i, slopes[i]);
-        }
-    }
-
-    /** A round bowl, least at (3, 4); line 0: x(0) + x(1) under 5; line 1: x(0) over 3. */
-    private static LeastInBounds two() {
-        LeastInBounds x = new LeastInBounds();
-        x.push(0, -3);
-        x.push(1, -4);
-        addLine(x, UNDER, 5, 0, 1, 1);
-        addLine(x, OVER, 3, 0, 1, 0);
-        return x;
-    }
-
-    /** Two lines that no place holds both: x(0) under 1, x(0) over 2. */
-    private static LeastInBounds empty() {
-        LeastInBounds x = new LeastInBounds();
-        addLine(x, UNDER, 1, 0, 1);
-        addLine(x, OVER, 2, 0, 1);
-        return x;
-    }
-
-    /** A bowl that isn't proper: minor 2 is 1 - 81. */
-    private static LeastInBounds improper() {
-        LeastInBounds x = new LeastInBounds();
-        x.bend(0, 1, 9);
-        return x;
     }
 
     private static void newObject1() {
@@ -527,16 +484,6 @@ public final class PromisesTest {
         Due.is("19: not proper, and bad", improper().tight(1), BAD);
     }
 
-    /** Least at (0, 0): x(0) over 1, 2, 3 one behind the other, then x(1) over 1. */
-    private static LeastInBounds stairs() {
-        LeastInBounds x = new LeastInBounds();
-        addLine(x, OVER, 1, 0, 1, 0);
-        addLine(x, OVER, 2, 0, 1, 0);
-        addLine(x, OVER, 3, 0, 1, 0);
-        addLine(x, OVER, 1, 0, 0, 1);
-        return x;
-    }
-
     private static void steps20() {
         Due.is("20: no lines", new LeastInBounds().steps(), 0);
         Due.is("20: stairs", stairs().steps(), 4);
@@ -699,13 +646,6 @@ public final class PromisesTest {
         fraction("25: of three", x.distance(2, 2, 0, 0), x.distance(2, 2, 0, 1), 1, 3);
     }
 
-    private static void sheetIs(String what, LeastInBounds x, int s, long... due) {
-        for (int k = 0; k < due.length; k++) {
-            Due.is(what + ", place " + k, x.read(s, k), due[k]);
-        }
-        Due.refused(what + ", no more", x.read(s, due.length), PLACE);
-    }
-
     private static void certify26() {
         LeastInBounds x = two();
         x.sheet(3, 0, 2);
@@ -751,13 +691,6 @@ public final class PromisesTest {
             addLine(z, UNDER, 1, 0, 1, 0, 0);
         }
         Due.is("26: the longest", z.certify(2), 10);
-    }
-
-    private static void fill(LeastInBounds x, int s, long... numbers) {
-        x.sheet(s, 1, numbers.length);
-        for (int k = 0; k < numbers.length; k++) {
-            x.cell(s, k, numbers[k]);
-        }
     }
 
     private static void checked(String what, LeastInBounds x, int due, long... numbers) {
